@@ -430,13 +430,11 @@ public final class LaceWorks {
         return what == 1 ? overs : first;
     }
 
+    /** BOBBIN b, at PLACE b at first, never changes places just if nothing ever does at PLACE b. */
     private int neverChanged() {
         int set = (1 << PLACES) - 1;
-        board.layAsAtFirst();
         for (int i = 0; i < letters.size(); i++) {
-            set &= ~(1 << board.upper(letters.get(i)));
-            set &= ~(1 << board.lower(letters.get(i)));
-            board.swap(letters.get(i));
+            set &= ~(3 << placeOf(letters.get(i)));
         }
         return set;
     }

@@ -416,7 +416,7 @@ public final class PromisesTest {
         for (int p = 0; p < 8; p++) {
             lie[p] = p;
         }
-        for (int n = 1; ; n++) {
+        for (int n = 1; n < 1000; n++) {
             int[] then = new int[8];
             boolean asAtFirst = true;
             for (int p = 0; p < 8; p++) {
@@ -428,6 +428,7 @@ public final class PromisesTest {
                 return n;
             }
         }
+        return 0;
     }
 
     /** Rings of 3 and 5 need 15 times, the most that eight BOBBINS can need: one is among many WORKS. */
@@ -513,6 +514,8 @@ public final class PromisesTest {
         shortOf("CTD", "10 1 21 11");
         shortOf("CTDCU", "10");
         shortOf("2D0U", "0 20 51");
+        shortOf("T1C0U", "21 30 20");
+        shortOf("1T0C1U", "21 10 20");
         LaceWorks x = of("T((CT)5)5", "2((T)6)9", "2((T)6)5(U)6");
         due.is("none goes", x.shortest(1, -1), 2 * 54);
         due.is("some go", x.shortest(2, -1), 2 * 24);
