@@ -18,6 +18,8 @@ public final class MovesTest {
         Random random = new Random(7);
         for (int i = 0; i < 400; i++) {
             tryOne(shortText(random), shortText(random));
+            String one = shortText(random);
+            tryOne(one, varied(one, random));
         }
         due.end();
     }
@@ -29,6 +31,16 @@ public final class MovesTest {
             s.append(random.nextInt(3)).append("CDTUP".charAt(random.nextInt(5)));
         }
         return s.toString();
+    }
+
+    /** Two STEPS change places, or a pair of opposites comes: often, but not always, the SAME. */
+    private static String varied(String text, Random random) {
+        int i = 2 * random.nextInt(text.length() / 2 + 1);
+        if (i + 4 <= text.length()) {
+            return text.substring(0, i) + text.substring(i + 2, i + 4) + text.substring(i, i + 2) + text.substring(i + 4);
+        }
+        int spot = random.nextInt(3);
+        return text.substring(0, i) + spot + "C" + spot + "D" + text.substring(i);
     }
 
     private static void tryOne(String one, String other) {
