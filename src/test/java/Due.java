@@ -6,10 +6,21 @@ final class Due {
     void is(String call, long got, long want) {
         asked++;
         if (got != want) {
-            wrong++;
-            if (wrong <= 50) {
-                System.out.println(call + " answered " + got + ", due is " + want);
-            }
+            tellWrong(call, String.valueOf(got), String.valueOf(want));
+        }
+    }
+
+    void is(String what, String got, String want) {
+        asked++;
+        if (!got.equals(want)) {
+            tellWrong(what, "'" + got + "'", "'" + want + "'");
+        }
+    }
+
+    private void tellWrong(String what, String got, String want) {
+        wrong++;
+        if (wrong <= 50) {
+            System.out.println(what + " answered " + got + ", due is " + want);
         }
     }
 
@@ -21,6 +32,10 @@ final class Due {
 
     int wrong() {
         return wrong;
+    }
+
+    int asked() {
+        return asked;
     }
 
     void end() {

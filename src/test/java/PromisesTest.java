@@ -1,6 +1,7 @@
 /** For each promise of the document: ordinary inputs, the edges that it names, and wrong inputs. */
 public final class PromisesTest {
     private static final Due due = new Due();
+    private static final Talk talk = new Talk(due);
     private static final int MIN = Integer.MIN_VALUE, MAX = Integer.MAX_VALUE;
     private static final int[] NO_WORKS = {-1, 4, MIN, MAX};
 
@@ -30,57 +31,9 @@ public final class PromisesTest {
         due.end();
     }
 
-    private static LaceWorks of(String... texts) {
-        LaceWorks x = new LaceWorks();
-        for (int i = 0; i < texts.length; i++) {
-            put(x, i, texts[i]);
-        }
-        return x;
-    }
-
-    private static int put(LaceWorks x, int work, String text) {
-        pad(x, text);
-        int steps = x.work(work);
-        if (steps < 0) {
-            due.fail("no WORK: " + text + " answered " + steps);
-        }
-        return steps;
-    }
-
-    private static void pad(LaceWorks x, String text) {
-        x.wipe();
-        for (char c : text.toCharArray()) {
-            x.say(c);
-        }
-    }
-
-    private static String script(LaceWorks x, int work) {
-        StringBuilder s = new StringBuilder();
-        for (int k = 0; k < x.written(work, -1); k++) {
-            s.append((char) x.written(work, k));
-        }
-        return s.toString();
-    }
-
     private static void reads(String text, String want) {
-        LaceWorks x = of(text);
-        text(text + " as written", script(x, 0), want);
-    }
-
-    private static void text(String what, String got, String want) {
-        if (got.equals(want)) {
-            due.is(what, 0, 0);
-        } else {
-            due.fail(what + " is " + got + ", due is " + want);
-        }
-    }
-
-    private static String shortForm(LaceWorks x, int work) {
-        StringBuilder s = new StringBuilder();
-        for (int i = 0; i < x.shortest(work, -1); i++) {
-            s.append(i == 0 ? "" : " ").append(x.shortest(work, i));
-        }
-        return s.toString();
+        LaceWorks x = talk.of(text);
+        due.is(text + " as written", talk.script(x, 0), want);
     }
 
     // Promise 1
@@ -97,7 +50,7 @@ public final class PromisesTest {
         due.is("new: wipe()", x.wipe(), 0);
         due.is("new: restore(0)", x.restore(0), LaceWorks.STATE);
         due.is("new: restore(1)", x.restore(1), LaceWorks.STATE);
-        LaceWorks y = of("CT");
+        LaceWorks y = talk.of("CT");
         due.is("another object", x.step(0, -1, 0) + 10 * y.step(0, -1, 0), 20);
     }
 
@@ -121,14 +74,14 @@ public final class PromisesTest {
 
     // Promise 3
     private static void wipe() {
-        LaceWorks x = of("CT");
-        pad(x, "((");
+        LaceWorks x = talk.of("CT");
+        talk.pad(x, "((");
         x.work(0);
         due.is("wipe()", x.wipe(), 2);
         due.is("wipe() again", x.wipe(), 0);
         due.is("wipe() leaves the works", x.step(0, -1, 0), 2);
         due.is("wipe() leaves the told fault", x.count(2), 2);
-        pad(x, "T");
+        talk.pad(x, "T");
         due.is("work after wipe", x.work(0), 1);
         due.is("the new sign alone", x.step(0, 0, 0), 2);
     }
@@ -170,7 +123,7 @@ public final class PromisesTest {
         faultOf("(" + forty.substring(2) + ")", 40);
         faultOf(forty.substring(1) + ")", 39);
         LaceWorks x = new LaceWorks();
-        pad(x, "C!");
+        talk.pad(x, "C!");
         due.is("fault() tells", x.fault(), 1);
         due.is("fault() keeps nothing", x.count(2), LaceWorks.NONE);
         due.is("fault() leaves the pad", x.count(0), 2);
@@ -178,7 +131,7 @@ public final class PromisesTest {
 
     private static void faultOf(String t, int want) {
         LaceWorks x = new LaceWorks();
-        pad(x, t);
+        talk.pad(x, t);
         due.is("fault() of " + t, x.fault(), want);
         int answer = x.work(0);
         due.is("work() of " + t, answer == LaceWorks.FAULT ? 1 : 0, want == LaceWorks.NONE ? 0 : 1);
@@ -192,24 +145,24 @@ public final class PromisesTest {
             due.is("work(" + w + ")", x.work(w), LaceWorks.UNKNOWN);
         }
         due.is("work of nothing", x.work(3), 0);
-        pad(x, "C1T2UPD");
+        talk.pad(x, "C1T2UPD");
         due.is("work(3)", x.work(3), 5);
         due.is("the pad is empty then", x.count(0), 0);
         due.is("work again: without STEPS", x.work(3), 0);
-        pad(x, "((C)6(T)4)6");
+        talk.pad(x, "((C)6(T)4)6");
         due.is("work of 60", x.work(0), 60);
-        pad(x, "((C)6(T)4)6P");
+        talk.pad(x, "((C)6(T)4)6P");
         due.is("work of 61", x.work(0), LaceWorks.FULL);
         due.is("FULL leaves the pad", x.count(0), 12);
         due.is("FULL leaves the WORK", x.step(0, -1, 0), 60);
         due.is("FULL is no FAULT", x.count(2), LaceWorks.NONE);
-        pad(x, "(((PPPPPPPPPPPPPPPPPPPPPPPPPPPPPPPP)9)9)9");
+        talk.pad(x, "(((PPPPPPPPPPPPPPPPPPPPPPPPPPPPPPPP)9)9)9");
         due.is("FULL by far, but 41 signs", x.work(0), LaceWorks.FAULT);
-        pad(x, "(((PPPPPPPPPPPPPPPPPPPPPPPPPPPPPPP)9)9)9");
+        talk.pad(x, "(((PPPPPPPPPPPPPPPPPPPPPPPPPPPPPPP)9)9)9");
         due.is("FULL by far", x.work(0), LaceWorks.FULL);
-        pad(x, "(((0120120120120120120120120120120)9)9)9");
+        talk.pad(x, "(((0120120120120120120120120120120)9)9)9");
         due.is("only figures", x.work(0), 0);
-        pad(x, "T(");
+        talk.pad(x, "T(");
         due.is("a pad that is no TEXT", x.work(1), LaceWorks.FAULT);
         due.is("FAULT leaves the pad", x.count(0), 2);
         due.is("FAULT leaves the WORK", x.step(1, -1, 0), 0);
@@ -238,53 +191,53 @@ public final class PromisesTest {
 
     // Promise 6
     private static void join() {
-        LaceWorks x = of("C1T", "2U", "((C)6(T)4)3");
+        LaceWorks x = talk.of("C1T", "2U", "((C)6(T)4)3");
         for (int w : NO_WORKS) {
             due.is("join, to", x.join(w, 0, 1), LaceWorks.UNKNOWN);
             due.is("join, a", x.join(0, w, 1), LaceWorks.UNKNOWN);
             due.is("join, b", x.join(0, 1, w), LaceWorks.UNKNOWN);
         }
         due.is("join(3, 0, 1)", x.join(3, 0, 1), 3);
-        text("join(3, 0, 1)", script(x, 3), "0C1T2U");
-        text("join leaves a", script(x, 0), "0C1T");
-        text("join leaves b", script(x, 1), "2U");
+        due.is("join(3, 0, 1)", talk.script(x, 3), "0C1T2U");
+        due.is("join leaves a", talk.script(x, 0), "0C1T");
+        due.is("join leaves b", talk.script(x, 1), "2U");
         due.is("join(1, 0, 1)", x.join(1, 0, 1), 3);
-        text("join to b", script(x, 1), "0C1T2U");
+        due.is("join to b", talk.script(x, 1), "0C1T2U");
         due.is("join(0, 0, 1)", x.join(0, 0, 1), 5);
-        text("join to a", script(x, 0), "0C1T0C1T2U");
+        due.is("join to a", talk.script(x, 0), "0C1T0C1T2U");
         due.is("join(0, 0, 0)", x.join(0, 0, 0), 10);
-        text("join, all the same", script(x, 0), "0C1T0C1T2U0C1T0C1T2U");
+        due.is("join, all the same", talk.script(x, 0), "0C1T0C1T2U0C1T0C1T2U");
         due.is("join to 60", x.join(3, 2, 2), 60);
-        put(x, 0, "P");
+        talk.put(x, 0, "P");
         due.is("join to 61", x.join(0, 3, 0), LaceWorks.FULL);
         due.is("FULL leaves it", x.step(0, -1, 0), 1);
-        due.is("join 60 to nothing", put(x, 1, "") + x.join(2, 1, 3), 60);
+        due.is("join 60 to nothing", talk.put(x, 1, "") + x.join(2, 1, 3), 60);
         due.is("join nothing to nothing", x.join(0, 1, 1), 0);
-        x = of("C", "T");
-        pad(x, "UU");
+        x = talk.of("C", "T");
+        talk.pad(x, "UU");
         x.join(3, 0, 1);
         due.is("join leaves the pad", x.count(0), 2);
     }
 
     // Promise 7
     private static void undone() {
-        LaceWorks x = of("C1D2T0UP");
+        LaceWorks x = talk.of("C1D2T0UP");
         for (int w : NO_WORKS) {
             due.is("undone, to", x.undone(w, 0), LaceWorks.UNKNOWN);
             due.is("undone, from", x.undone(0, w), LaceWorks.UNKNOWN);
         }
         due.is("undone(1, 0)", x.undone(1, 0), 5);
-        text("undone(1, 0)", script(x, 1), "0PT2U1C0D");
-        text("undone leaves from", script(x, 0), "0C1D2T0UP");
+        due.is("undone(1, 0)", talk.script(x, 1), "0PT2U1C0D");
+        due.is("undone leaves from", talk.script(x, 0), "0C1D2T0UP");
         due.is("undone(0, 0)", x.undone(0, 0), 5);
-        text("undone(0, 0)", script(x, 0), "0PT2U1C0D");
+        due.is("undone(0, 0)", talk.script(x, 0), "0PT2U1C0D");
         due.is("undone of nothing", x.undone(0, 2), 0);
         due.is("undone of nothing", x.step(0, -1, 0), 0);
     }
 
     // Promise 8
     private static void step() {
-        LaceWorks x = of("C1D2T0UP");
+        LaceWorks x = talk.of("C1D2T0UP");
         int[] kinds = {0, 1, 2, 3, 4};
         int[] spots = {0, 1, 2, 0, 0};
         for (int i = 0; i < 5; i++) {
@@ -307,9 +260,9 @@ public final class PromisesTest {
 
     // Promise 9
     private static void written() {
-        LaceWorks x = of("C1D2T0UP", "1(C)3", "", "((C1T0)5)6");
-        text("written", script(x, 0), "0C1D2T0UP");
-        text("written, one spot", script(x, 1), "1CCC");
+        LaceWorks x = talk.of("C1D2T0UP", "1(C)3", "", "((C1T0)5)6");
+        due.is("written", talk.script(x, 0), "0C1D2T0UP");
+        due.is("written, one spot", talk.script(x, 1), "1CCC");
         due.is("written, nothing", x.written(2, -1), 0);
         due.is("written, the longest", x.written(3, -1), 120);
         due.is("written, its last", x.written(3, 119), 'T');
@@ -323,25 +276,17 @@ public final class PromisesTest {
         }
     }
 
-    private static String lying(LaceWorks x, int work, int i) {
-        StringBuilder s = new StringBuilder();
-        for (int p = 0; p < 8; p++) {
-            s.append(x.at(work, i, p));
-        }
-        return s.toString();
-    }
-
     // Promise 10
     private static void at() {
-        LaceWorks x = of("CTP1C2TD", "D1U");
-        text("at 0", lying(x, 0, 0), "01234567");
-        text("at 1: C", lying(x, 0, 1), "02134567");
-        text("at 2: T", lying(x, 0, 2), "20314567");
-        text("at 3: P", lying(x, 0, 3), "20314567");
-        text("at 4: 1C", lying(x, 0, 4), "20341567");
-        text("at 5: 2T", lying(x, 0, 5), "20345176");
-        text("at 6: 2D", lying(x, 0, 6), "20345716");
-        text("at D, 1U", lying(x, 1, 2), "02315467");
+        LaceWorks x = talk.of("CTP1C2TD", "D1U");
+        due.is("at 0", talk.lying(x, 0, 0), "01234567");
+        due.is("at 1: C", talk.lying(x, 0, 1), "02134567");
+        due.is("at 2: T", talk.lying(x, 0, 2), "20314567");
+        due.is("at 3: P", talk.lying(x, 0, 3), "20314567");
+        due.is("at 4: 1C", talk.lying(x, 0, 4), "20341567");
+        due.is("at 5: 2T", talk.lying(x, 0, 5), "20345176");
+        due.is("at 6: 2D", talk.lying(x, 0, 6), "20345716");
+        due.is("at D, 1U", talk.lying(x, 1, 2), "02315467");
         due.is("at(0, 7, 0)", x.at(0, 7, 0), LaceWorks.OUTSIDE);
         due.is("at(0, -1, 0)", x.at(0, -1, 0), LaceWorks.OUTSIDE);
         due.is("at(0, 0, -1)", x.at(0, 0, -1), LaceWorks.OUTSIDE);
@@ -354,7 +299,7 @@ public final class PromisesTest {
 
     // Promise 11
     private static void met() {
-        LaceWorks x = of("P(C)3D", "T", "U", "CT");
+        LaceWorks x = talk.of("P(C)3D", "T", "U", "CT");
         due.is("met: how often", x.met(0, 1, 2, 0), 4);
         due.is("met: 1 over 2", x.met(0, 1, 2, 1), 3);
         due.is("met: 2 over 1", x.met(0, 2, 1, 1), 1);
@@ -380,7 +325,7 @@ public final class PromisesTest {
     }
 
     private static void toldOf(String t, int... want) {
-        LaceWorks x = of(t);
+        LaceWorks x = talk.of(t);
         for (int what = 0; what < want.length; what++) {
             due.is("told(0, " + what + ") of " + t, x.told(0, what), want[what]);
         }
@@ -397,7 +342,7 @@ public final class PromisesTest {
         toldOf("2CT", 2, 3, 0, 4, 4, 15);
         toldOf("C1C2C", 3, 3, 0, 2, 2, 1 + 128);
         toldOf("C1T", 2, 3, 0, 6, 3, 1 + 64 + 128);
-        LaceWorks x = of("0T(1T)2C1TC", "0TC2TC", "C0T1C2T", "0TC1C2CT");
+        LaceWorks x = talk.of("0T(1T)2C1TC", "0TC2TC", "C0T1C2T", "0TC1C2CT");
         for (int w = 0; w < 4; w++) {
             due.is("told(w, 3)", x.told(w, 3), turns(x, w));
         }
@@ -440,7 +385,7 @@ public final class PromisesTest {
             for (int k = 0; k < 30; k++) {
                 t.append("CT012".charAt(random.nextInt(5)));
             }
-            LaceWorks x = of(t.toString());
+            LaceWorks x = talk.of(t.toString());
             due.is("told(0, 3) of " + t, x.told(0, 3), turns(x, 0));
             most = Math.max(most, x.told(0, 3));
         }
@@ -449,7 +394,7 @@ public final class PromisesTest {
 
     // Promise 13
     private static void pin() {
-        LaceWorks x = of("PC1P2TPP", "(C1P)3", "CT");
+        LaceWorks x = talk.of("PC1P2TPP", "(C1P)3", "CT");
         int[][] want = {{0, 0, 1, 2}, {2, 1, 3, 4}, {4, 2, 4, 7}, {5, 2, 4, 7}};
         for (int i = 0; i < want.length; i++) {
             for (int what = 0; what < 4; what++) {
@@ -473,7 +418,7 @@ public final class PromisesTest {
 
     // Promise 14
     private static void letter() {
-        LaceWorks x = of("CDTUP1CDTUP2CDTUP", "", "2((TU)6)5");
+        LaceWorks x = talk.of("CDTUP1CDTUP2CDTUP", "", "2((TU)6)5");
         int[] want = {10, 11, 1, 21, 0, 20, 30, 31, 21, 41, 20, 40, 50, 51, 41, 61, 40, 60};
         due.is("letter(0, -1)", x.letter(0, -1), want.length);
         for (int i = 0; i < want.length; i++) {
@@ -493,7 +438,7 @@ public final class PromisesTest {
     }
 
     private static void shortOf(String t, String want) {
-        text("the short form of " + t, shortForm(of(t), 0), want);
+        due.is("the short form of " + t, talk.shortForm(talk.of(t), 0), want);
     }
 
     // Promise 15
@@ -516,7 +461,7 @@ public final class PromisesTest {
         shortOf("2D0U", "0 20 51");
         shortOf("T1C0U", "21 30 20");
         shortOf("1T0C1U", "21 10 20");
-        LaceWorks x = of("T((CT)5)5", "2((T)6)9", "2((T)6)5(U)6");
+        LaceWorks x = talk.of("T((CT)5)5", "2((T)6)9", "2((T)6)5(U)6");
         due.is("none goes", x.shortest(1, -1), 2 * 54);
         due.is("some go", x.shortest(2, -1), 2 * 24);
         due.is("in order", x.shortest(1, 53) * 100 + x.shortest(1, 54), 4161);
@@ -532,7 +477,7 @@ public final class PromisesTest {
     }
 
     private static void sameAre(String one, String other, int want) {
-        LaceWorks x = of(one, other);
+        LaceWorks x = talk.of(one, other);
         due.is("same: " + one + " " + other, x.same(0, 1), want);
         due.is("same: " + other + " " + one, x.same(1, 0), want);
         due.is("same with itself: " + one, x.same(0, 0), 1);
@@ -554,7 +499,7 @@ public final class PromisesTest {
         // The rule of braids that three crossings side by side may be turned is none of the MOVES.
         sameAre("TCT", "CTC", 0);
         sameAre("C1PC", "1CP0C", 1);
-        LaceWorks x = of("CT");
+        LaceWorks x = talk.of("CT");
         for (int w : NO_WORKS) {
             due.is("same, one", x.same(w, 0), LaceWorks.UNKNOWN);
             due.is("same, other", x.same(0, w), LaceWorks.UNKNOWN);
@@ -562,7 +507,7 @@ public final class PromisesTest {
     }
 
     private static void partOf(String t, int want) {
-        due.is("part of " + t, of(t).part(0), want);
+        due.is("part of " + t, talk.of(t).part(0), want);
     }
 
     // Promise 17
@@ -582,7 +527,7 @@ public final class PromisesTest {
         partOf("(CCTCC)9", 5);
         partOf("((C)6T)6", 7);
         partOf("(CTCTCU)5", 6);
-        LaceWorks x = of("C");
+        LaceWorks x = talk.of("C");
         for (int w : NO_WORKS) {
             due.is("part, no WORK", x.part(w), LaceWorks.UNKNOWN);
         }
@@ -590,66 +535,66 @@ public final class PromisesTest {
 
     // Promise 18
     private static void image() {
-        LaceWorks x = of("CT", "P");
+        LaceWorks x = talk.of("CT", "P");
         for (int k : new int[] {-1, 2, MIN, MAX}) {
             due.is("image, outside", x.image(k), LaceWorks.OUTSIDE);
         }
         due.is("image(1)", x.image(1), 1);
         due.is("count(3)", x.count(3), 2);
-        put(x, 0, "UUU");
+        talk.put(x, 0, "UUU");
         due.is("image(1), in place of it", x.image(1), 1);
-        put(x, 0, "");
+        talk.put(x, 0, "");
         due.is("restore(1)", x.restore(1), 1);
-        text("the later one", script(x, 0), "0UUU");
+        due.is("the later one", talk.script(x, 0), "0UUU");
         due.is("image(0)", x.image(0), 1);
         due.is("count(3)", x.count(3), 3);
     }
 
     // Promise 19
     private static void restore() {
-        LaceWorks x = of("CT", "P", "1U", "2D");
+        LaceWorks x = talk.of("CT", "P", "1U", "2D");
         for (int k : new int[] {-1, 2, MIN, MAX}) {
             due.is("restore, outside", x.restore(k), LaceWorks.OUTSIDE);
         }
         due.is("restore(0), nothing kept", x.restore(0), LaceWorks.STATE);
         x.image(0);
         due.is("restore(1), nothing kept", x.restore(1), LaceWorks.STATE);
-        put(x, 0, "C");
-        put(x, 1, "");
-        put(x, 2, "DDDD");
+        talk.put(x, 0, "C");
+        talk.put(x, 1, "");
+        talk.put(x, 2, "DDDD");
         x.image(1);
-        pad(x, "T(");
+        talk.pad(x, "T(");
         x.work(3);
         due.is("restore(0)", x.restore(0), 1);
-        text("WORK 0", script(x, 0), "0CT");
-        text("WORK 1", script(x, 1), "0P");
-        text("WORK 2", script(x, 2), "1U");
-        text("WORK 3", script(x, 3), "2D");
+        due.is("WORK 0", talk.script(x, 0), "0CT");
+        due.is("WORK 1", talk.script(x, 1), "0P");
+        due.is("WORK 2", talk.script(x, 2), "1U");
+        due.is("WORK 3", talk.script(x, 3), "2D");
         due.is("the pad stays", x.count(0), 2);
         due.is("the told fault stays", x.count(2), 2);
         due.is("the images stay", x.count(3), 3);
         x.undone(0, 2);
         due.is("restore(0) again", x.restore(0), 1);
-        text("the image was not changed", script(x, 0), "0CT");
+        due.is("the image was not changed", talk.script(x, 0), "0CT");
         due.is("restore(1)", x.restore(1), 1);
-        text("the other image", script(x, 2), "0DDDD");
+        due.is("the other image", talk.script(x, 2), "0DDDD");
     }
 
     // Promise 20
     private static void count() {
-        LaceWorks x = of("CT", "P");
+        LaceWorks x = talk.of("CT", "P");
         due.is("count(1)", x.count(1), 3);
-        pad(x, "C)D");
+        talk.pad(x, "C)D");
         due.is("count(0)", x.count(0), 3);
         due.is("count(2): none yet", x.count(2), LaceWorks.NONE);
         x.work(7);
         due.is("count(2): UNKNOWN tells none", x.count(2), LaceWorks.NONE);
         x.work(2);
         due.is("count(2)", x.count(2), 1);
-        put(x, 2, "TTT");
+        talk.put(x, 2, "TTT");
         due.is("count(2) stays", x.count(2), 1);
         due.is("count(1)", x.count(1), 6);
-        pad(x, "(C)");
+        talk.pad(x, "(C)");
         x.fault();
         due.is("count(2): fault() tells none", x.count(2), 1);
         x.work(2);
@@ -659,13 +604,13 @@ public final class PromisesTest {
         for (int what : new int[] {-1, 4, MIN, MAX}) {
             due.is("count, outside", x.count(what), LaceWorks.OUTSIDE);
         }
-        x = of("((C)6)9(C)6", "((C)6)9(C)6", "((C)6)9(C)6", "((C)6)9(C)6");
+        x = talk.of("((C)6)9(C)6", "((C)6)9(C)6", "((C)6)9(C)6", "((C)6)9(C)6");
         due.is("count(1): the most", x.count(1), 240);
     }
 
     private static void orderOfRefusals() {
-        LaceWorks x = of("((C)6)9(C)6");
-        pad(x, "(((C)9)9)9(");
+        LaceWorks x = talk.of("((C)6)9(C)6");
+        talk.pad(x, "(((C)9)9)9(");
         due.is("UNKNOWN ahead of FAULT", x.work(4), LaceWorks.UNKNOWN);
         due.is("FAULT ahead of FULL", x.work(0), LaceWorks.FAULT);
         due.is("UNKNOWN ahead of FULL", x.join(4, 0, 0), LaceWorks.UNKNOWN);
