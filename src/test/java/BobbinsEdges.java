@@ -195,6 +195,16 @@ final class BobbinsEdges {
         toldIs(t, "TC2CTC1CT", 3, 15);
     }
 
+    @Edge(promise = 12, says = TIMES)
+    static void toldTimesOneAfterAnother(Talk t) {
+        LaceWorks x = t.of("TC2CTC1CT", "C", "", "CT1C");
+        int[] want = {15, 2, 1, 5};
+        for (int asked = 0; asked < 16; asked++) {
+            int work = asked % 4 < 2 ? asked / 4 : asked % 4;
+            t.is("told(" + work + ", 3), asked as number " + asked, x.told(work, 3), want[work]);
+        }
+    }
+
     @Edge(promise = 12, says = "how many BOBBINS lie as at first behind it (4)")
     static void toldAsAtFirst(Talk t) {
         toldIs(t, "", 4, 8);

@@ -13,6 +13,7 @@ import java.util.Random;
 public final class MovesTest {
     private static final int LIMIT = 40_000;
     private static final Due due = new Due();
+    private static final Talk talk = new Talk(due);
 
     public static void main(String[] args) {
         Random random = new Random(7);
@@ -45,8 +46,8 @@ public final class MovesTest {
 
     private static void tryOne(String one, String other) {
         LaceWorks x = new LaceWorks();
-        put(x, 0, one);
-        put(x, 1, other);
+        talk.put(x, 0, one);
+        talk.put(x, 1, other);
         List<Integer> first = letters(x, 0);
         List<Integer> second = letters(x, 1);
         if (first.size() > 5 || second.size() > 5) {
@@ -61,17 +62,10 @@ public final class MovesTest {
         if (rows.size() < LIMIT) {
             due.is(one + " same " + other, x.same(0, 1), rows.containsKey(second) ? 1 : 0);
         }
-        put(x, 2, one);
+        talk.put(x, 2, one);
         x.undone(3, 2);
         x.join(2, 2, 3);
         due.is(one + " and undone: shortest", x.shortest(2, -1), 0);
-    }
-
-    private static void put(LaceWorks x, int work, String text) {
-        for (char c : text.toCharArray()) {
-            x.say(c);
-        }
-        x.work(work);
     }
 
     private static List<Integer> letters(LaceWorks x, int work) {

@@ -151,6 +151,15 @@ final class SameEdges {
         sameIs(t, "T", "U", 0);
     }
 
+    @Edge(promise = 16, says = "are the SAME: 1, 0.")
+    static void notTheSameByOneLetter(Talk t) {
+        sameIs(t, "CTC", "CTD", 0);
+        sameIs(t, "C1T", "C1U", 0);
+        sameIs(t, "((C)6)9(C)6", "((C)6)9(C)5", 0);
+        sameIs(t, "((T)6)9(T)6", "((T)6)9(T)52C", 0);
+        sameIs(t, "C((T)6)9C", "D((T)6)9C", 0);
+    }
+
     /** BOBBINS lie alike behind both, but by no MOVES of the document does one become the other. */
     @Edge(promise = 16, says = "are the SAME: 1, 0.")
     static void notTheSameThoughLyingAlike(Talk t) {

@@ -14,6 +14,19 @@ final class TermsEdges {
     private TermsEdges() {
     }
 
+    // ---- calls
+
+    @Edge(promise = 0, says = "An object is used for at most 512 calls after it has been made")
+    static void lastOfManyCalls(Talk t) {
+        LaceWorks x = new LaceWorks();
+        for (int call = 1; call <= 510; call += 2) {
+            t.is("say, call " + call, x.say('T'), 1);
+            t.is("work, call " + (call + 1), x.work(0), 1);
+        }
+        t.is("the 511th call", x.undone(3, 0), 1);
+        t.is("the 512th call", x.step(3, 0, 0), 3);
+    }
+
     // ---- refusals
 
     @Edge(promise = 0, says = FIRST_THAT_FITS)
@@ -108,6 +121,27 @@ final class TermsEdges {
     }
 
     // ---- PLACES and KINDS
+
+    @Edge(promise = 0, says = "PLACES are 0 to 7, from the left; BOBBINS are 0 to 7")
+    static void outermostPlacesAndBobbins(Talk t) {
+        LaceWorks x = t.of("T2T");
+        t.is("from the left", t.lying(x, 0, 2), "10325476");
+        t.is("PLACE -1", x.at(0, 2, -1), -2);
+        t.is("PLACE 8", x.at(0, 2, 8), -2);
+        t.is("BOBBINS 0 and 1", x.met(0, 0, 1, 0), 1);
+        t.is("BOBBINS 6 and 7", x.met(0, 6, 7, 0), 1);
+        t.is("BOBBIN -1", x.met(0, -1, 0, 0), -2);
+        t.is("BOBBIN 8", x.met(0, 7, 8, 0), -2);
+    }
+
+    @Edge(promise = 0, says = "A STEP has a KIND and a SPOT, 0 to 2.")
+    static void leastAndGreatestSpot(Talk t) {
+        LaceWorks x = t.of("0P2P", "0T", "2T");
+        t.is("the least", x.step(0, 0, 1), 0);
+        t.is("the greatest", x.step(0, 1, 1), 2);
+        t.is("the least reaches PLACE 0", t.lying(x, 1, 1), "10324567");
+        t.is("the greatest reaches PLACE 7", t.lying(x, 2, 1), "01235476");
+    }
 
     @Edge(promise = 0, says = "BOBBIN b at PLACE b at first")
     static void bobbinsAtFirst(Talk t) {
