@@ -55,7 +55,7 @@ public final class LaceWorks {
         for (int k = 0; k < IMAGES; k++) {
             images[k] = new Works();
         }
-        reader = new Reader(pad, draft);
+        reader = new Reader();
         shortener = new Shortener();
         board = new Board();
         keptImages = 0;
@@ -78,7 +78,7 @@ public final class LaceWorks {
     }
 
     public int fault() {
-        return reader.faultPlace();
+        return Reader.faultPlace(pad);
     }
 
     public int work(int work) {
@@ -86,12 +86,12 @@ public final class LaceWorks {
         if (steps == null) {
             return UNKNOWN;
         }
-        int place = reader.faultPlace();
+        int place = Reader.faultPlace(pad);
         if (place != NONE) {
             toldFault = place;
             return FAULT;
         }
-        if (!reader.readSteps()) {
+        if (!reader.readSteps(pad, draft)) {
             return FULL;
         }
         steps.become(draft);
@@ -562,19 +562,15 @@ public final class LaceWorks {
 
     /** Reads THE PAD: where its FAULT is, and the STEPS that it tells. */
     private static final class Reader {
-        private final Row signs;
-        private final Row steps;
         private int spot;
         private boolean tooMany;
 
-        Reader(Row signs, Row steps) {
-            this.signs = signs;
-            this.steps = steps;
+        Reader() {
             spot = 0;
             tooMany = false;
         }
 
-        int faultPlace() {
+        static int faultPlace(Row signs) {
             int open = 0;
             boolean timesDue = false;
             for (int i = 0; i < signs.size(); i++) {
@@ -609,23 +605,23 @@ public final class LaceWorks {
             return sign >= '0' && sign < '0' + SPOTS;
         }
 
-        /** The STEPS of THE PAD, which has no FAULT: whether there is room for all of them. */
-        boolean readSteps() {
+        /** The STEPS that signs without a FAULT tell: whether there is room for all of them. */
+        boolean readSteps(Row signs, Row steps) {
             steps.clear();
             spot = 0;
             tooMany = false;
-            readText(0, 0);
+            readText(signs, steps, 0, 0);
             return !tooMany;
         }
 
         /** Reads up to the ) that ends this TEXT, or to the end of THE PAD: the place of that. */
-        private int readText(int from, int depth) {
+        private int readText(Row signs, Row steps, int from, int depth) {
             int i = from;
             while (i < signs.size() && !tooMany && signs.get(i) != ')') {
                 if (signs.get(i) == '(') {
-                    i = Math.max(i + 1, readPart(i, depth));
+                    i = Math.max(i + 1, readPart(signs, steps, i, depth));
                 } else {
-                    readSign(signs.get(i));
+                    readSign(signs.get(i), steps);
                     i++;
                 }
             }
@@ -633,21 +629,21 @@ public final class LaceWorks {
         }
 
         /** Reads the PART whose ( is there, as often as it says: the place behind it. */
-        private int readPart(int open, int depth) {
+        private int readPart(Row signs, Row steps, int open, int depth) {
             if (depth >= MOST_OPEN) {
                 return signs.size();
             }
             int had = steps.size();
-            int close = readText(open + 1, depth + 1);
+            int close = readText(signs, steps, open + 1, depth + 1);
             int times = signs.get(close + 1) - '0';
             // Without a STEP, one time tells all: SPOT is then what any more times would leave.
             for (int time = 1; time < times && steps.size() > had && !tooMany; time++) {
-                readText(open + 1, depth + 1);
+                readText(signs, steps, open + 1, depth + 1);
             }
             return close + 2;
         }
 
-        private void readSign(int sign) {
+        private void readSign(int sign, Row steps) {
             if (isSpot(sign)) {
                 spot = sign - '0';
             } else {

@@ -86,6 +86,10 @@ public final class FaceTest {
         for (Class<?> c : all) {
             due.is(c + " is static", Modifier.isStatic(c.getModifiers()) ? 1 : 0, 1);
             due.is(c + " is public", Modifier.isPublic(c.getModifiers()) ? 1 : 0, 0);
+            for (Constructor<?> made : c.getDeclaredConstructors()) {
+                // Then the constructor of LaceWorks has nothing of its object to hand out.
+                due.is(made + " takes numbers", Arrays.stream(made.getParameterTypes()).allMatch(Class::isPrimitive) ? 1 : 0, 1);
+            }
         }
     }
 

@@ -127,7 +127,7 @@ public final class RandomRunsTest {
     }
 
     private void ask(int w) {
-        int i = number(random.nextBoolean() ? 12 : 61) - 1;
+        int i = number(new int[] {12, 63, 122}[random.nextInt(3)]) - 1;
         switch (random.nextInt(8)) {
             case 0 -> {
                 int what = number(2);
